@@ -155,7 +155,7 @@ public final class SourceTokens {
     /** What c is worth as a digit, NONE when it is no digit in the base. */
     private static int digitOf(int c, int base) {
         int worth = NONE;
-        if (isDigit(c)) {
+        if (c >= '0' && c <= '9') {
             worth = c - '0';
         } else if (c >= 'a' && c <= 'f') {
             worth = c - 'a' + 10;
@@ -376,6 +376,7 @@ public final class SourceTokens {
 
     /** The different NAMES, found again by chains of those that have a hash's low bits in common. */
     private static final class Names {
+        // A power of two, so that a mask makes a chain's number of every hash.
         static final int CHAINS = 512;
 
         final int[] heads = new int[CHAINS];

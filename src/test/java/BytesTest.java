@@ -6,6 +6,7 @@ public final class BytesTest {
         valuesOfRawStrings();
         othersHaveNone();
         manyBytes();
+        manyScans();
         Kit.finish();
     }
 
@@ -37,6 +38,7 @@ public final class BytesTest {
         value(Kit.utf8("\"\177\u0080\u07ff\u0800\uffff\ud83d\ude00\udbff\udfff\""),
                 Kit.utf8("\177\u0080\u07ff\u0800\uffff\ud83d\ude00\udbff\udfff"));
         value("\"a\rb\tc\"", "a\rb\tc");
+        value(Kit.utf8("\"\\xff\u00e9\\377\\u00e9\\xe9\\n\\u20ac\""), "\u00ff\u00c3\u00a9\u00ff\u00c3\u00a9\u00e9\n\u00e2\u0082\u00ac");
     }
 
     private static void valuesOfRawStrings() {
@@ -61,6 +63,19 @@ public final class BytesTest {
             Kit.dueThrow("byteOf(" + k + ", 0)", () -> x.byteOf(k, 0));
         }
         Kit.due("byteOf(0, 0)", x.byteOf(0, 0), 'a');
+    }
+
+    /** What earlier scans kept must not take the room of later ones. */
+    private static void manyScans() {
+        SourceTokens x = new SourceTokens();
+        for (int n = 0; n < 20; n++) {
+            String name = "n" + n + "_".repeat(5000);
+            Kit.feed(x, n % 2 == 0 ? name : name + " #");
+            x.scan();
+            if (n % 2 == 0) {
+                Kit.dueText("the NAME of scan " + n, Kit.value(x, 0), name);
+            }
+        }
     }
 
     private static void manyBytes() {

@@ -4,6 +4,7 @@ public final class TextTest {
         newObject();
         feedTakesTheHighestByteFirst();
         endCuts();
+        whatIsCutDoesNotCount();
         feedGoesOnBehindTheCut();
         textIsLimited();
         scanLeavesNoText();
@@ -57,6 +58,24 @@ public final class TextTest {
         Kit.due("end(0) of 7", x.end(0), true);
         Kit.due("size() after end(0)", x.size(), 0);
         Kit.due("scan() after end(0)", x.scan(), 0);
+    }
+
+    private static void whatIsCutDoesNotCount() {
+        String[] texts = {"+", "/", ".", "<", "<<", "&^", "0", "1", "1.", "a", "retur", "'a'", "/**/"};
+        String[] cut = {"=", "/", "*", "5", "..", "==", "-", "x1", "e5", "_", "n", "a", "'", "\n", "#", "\0", "\u00ff"};
+        for (String text : texts) {
+            for (String more : cut) {
+                SourceTokens x = new SourceTokens();
+                Kit.feed(x, text + more);
+                x.end(text.length());
+                SourceTokens alone = Kit.scanned(text);
+                String call = " of " + Kit.shown(text) + " with " + Kit.shown(more) + " cut off";
+                Kit.due("scan()" + call, x.scan(), alone.count());
+                for (int what = 0; what <= 8; what++) {
+                    Kit.dueText("token(.., " + what + ")" + call, Kit.facts(x, what), Kit.facts(alone, what));
+                }
+            }
+        }
     }
 
     private static void feedGoesOnBehindTheCut() {
