@@ -3,17 +3,32 @@ import java.util.NoSuchElementException;
 
 /** What the tests have in common: feeding a text, comparing answers, and the exit code. */
 final class Kit {
+    /** The longest text, and the most tokens. */
+    static final int MAX_TEXT = 65536;
+    static final int MAX_TOKENS = 16384;
+
     private static int wrong = 0;
     private static int asked = 0;
+    private static String sentence = "";
 
     private Kit() {
+    }
+
+    /** The sentence of the document that the next answers are due by; wrong answers name it. */
+    static void sentence(String words) {
+        sentence = words;
+    }
+
+    private static void tellWrong(String call, String got, String want) {
+        wrong++;
+        String by = sentence.isEmpty() ? "" : " by: " + sentence;
+        System.out.println(call + " answered " + got + ", due is " + want + by);
     }
 
     static void due(String call, long got, long want) {
         asked++;
         if (got != want) {
-            wrong++;
-            System.out.println(call + " answered " + got + ", due is " + want);
+            tellWrong(call, String.valueOf(got), String.valueOf(want));
         }
     }
 
@@ -24,8 +39,7 @@ final class Kit {
     static void dueText(String call, String got, String want) {
         asked++;
         if (!got.equals(want)) {
-            wrong++;
-            System.out.println(call + " answered " + shown(got) + ", due is " + shown(want));
+            tellWrong(call, shown(got), shown(want));
         }
     }
 
@@ -38,8 +52,7 @@ final class Kit {
         asked++;
         try {
             long got = run.answer();
-            wrong++;
-            System.out.println(call + " answered " + got + ", due is NoSuchElementException");
+            tellWrong(call, String.valueOf(got), "NoSuchElementException");
         } catch (NoSuchElementException e) {
             // as due
         }
@@ -62,7 +75,14 @@ final class Kit {
         return new String(text.getBytes(StandardCharsets.UTF_8), StandardCharsets.ISO_8859_1);
     }
 
+    /** Feeds twenties and cuts what is too much; near the limit the last twenty must end the text. */
     static void feed(SourceTokens x, String text) {
+        int first = x.size() + text.length() > MAX_TEXT - 16 ? text.length() - 20 : text.length();
+        feedPart(x, text.substring(0, first));
+        feedPart(x, text.substring(first));
+    }
+
+    private static void feedPart(SourceTokens x, String text) {
         byte[] all = bytes(text);
         int size = x.size() + all.length;
         for (int at = 0; at < all.length; at += 20) {
@@ -98,6 +118,28 @@ final class Kit {
         due("scan() of " + shown(text), scan(text), want);
     }
 
+    /** Each text has its error at the place, and so it has, whatever comes behind. */
+    static void dueError(int place, String... texts) {
+        for (String text : texts) {
+            dueRefused(text, place);
+            if (place < text.length()) {
+                dueRefused(text.substring(0, place + 1), place);
+                dueRefused(text + "\"'`*/\n}", place);
+            }
+        }
+    }
+
+    private static void dueRefused(String text, int place) {
+        SourceTokens x = new SourceTokens();
+        feed(x, "t u");
+        x.scan();
+        feed(x, text);
+        due("scan() of " + shown(text), x.scan(), -1 - place);
+        due("count() after it", x.count(), 0);
+        due("names() after it", x.names(), 0);
+        due("size() after it", x.size(), 0);
+    }
+
     /** What byteOf() tells of token k. */
     static String value(SourceTokens x, int k) {
         StringBuilder value = new StringBuilder();
@@ -114,6 +156,11 @@ final class Kit {
             all.append(k == 0 ? "" : " ").append(x.token(k, what));
         }
         return all.toString();
+    }
+
+    /** Asks for one fact of all tokens of the text. */
+    static void dueFacts(String text, int what, String want) {
+        dueText("token(.., " + what + ") of " + shown(text), facts(scanned(text), what), want);
     }
 
     static String shown(String text) {

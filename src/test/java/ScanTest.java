@@ -19,15 +19,8 @@ public final class ScanTest {
         Kit.dueScan(text, tokens);
     }
 
-    /** Each text has its error at the place, and so it has, whatever comes behind. */
     private static void wrong(int place, String... texts) {
-        for (String text : texts) {
-            Kit.dueScan(text, -1 - place);
-            if (place < text.length()) {
-                Kit.dueScan(text.substring(0, place + 1), -1 - place);
-                Kit.dueScan(text + "\"'`*/\n}", -1 - place);
-            }
-        }
+        Kit.dueError(place, texts);
     }
 
     private static void betweenTokens() {
