@@ -17,6 +17,7 @@ public final class PromiseEdgesTest {
         size();
         scanLeavesNoText();
         scanTellsTheFineBytes();
+        manyScans();
         count();
         factsOfTokens();
         numbersOfNames();
@@ -259,6 +260,17 @@ public final class PromiseEdgesTest {
         Kit.dueText("bytes behind errors", Kit.value(x, 0) + Kit.value(x, 1), "cb");
     }
 
+    private static void manyScans() {
+        Kit.sentence("5: The text is taken apart, and empty then: what earlier scans kept takes no room");
+        SourceTokens x = new SourceTokens();
+        for (int n = 0; n < 12; n++) {
+            String name = "n" + n + "_".repeat(10000);
+            Kit.feed(x, n % 3 == 2 ? name + "#" : name);
+            Kit.due("scan() " + n, x.scan(), n % 3 == 2 ? -1 - name.length() : 2);
+            Kit.dueText("the NAME of scan " + n, n % 3 == 2 ? name : Kit.value(x, 0), name);
+        }
+    }
+
     private static void count() {
         Kit.sentence("6: How many tokens there are, from the latest scan");
         SourceTokens x = new SourceTokens();
@@ -283,14 +295,16 @@ public final class PromiseEdgesTest {
     }
 
     private static void factsOfTokens() {
-        Kit.sentence("7: 0 its kind, 1 its place (from 0), 2 its line, 3 its column in bytes (both from 1), 4 its length in bytes, 5 whether it was put in");
+        Kit.sentence("7: 0 its kind, 1 its place (from 0), 2 its line, 3 its column in bytes (both from 1), 4 its length in bytes,"
+                + " 5 whether it was put in");
         Kit.dueFacts(ALL_KINDS, 0, "1 23 2 3 4 5 5 40 85 78 1 85");
         Kit.dueFacts(ALL_KINDS, 1, "0 3 6 12 18 22 28 33 35 37 39 41");
         Kit.dueFacts(ALL_KINDS, 2, "1 1 1 1 1 1 1 1 1 1 2 2");
         Kit.dueFacts(ALL_KINDS, 3, "1 4 7 13 19 23 29 34 36 38 1 3");
         Kit.dueFacts(ALL_KINDS, 4, "2 2 5 5 3 5 4 1 1 1 2 0");
         Kit.dueFacts(ALL_KINDS, 5, "0 0 0 0 0 0 0 0 0 0 0 1");
-        Kit.sentence("7: the number of the NAME (NONE for others), 7 the base of the INT (0 for others), 8 how many bytes byteOf() has");
+        Kit.sentence("7: 6 the number of the NAME (NONE for others), 7 the base of the INT (0 for others),"
+                + " 8 how many bytes byteOf() has");
         Kit.dueFacts(ALL_KINDS, 6, "0 -1 -1 -1 -1 -1 -1 -1 -1 -1 0 -1");
         Kit.dueFacts(ALL_KINDS, 7, "0 0 16 0 0 0 0 0 0 0 0 0");
         Kit.dueFacts(ALL_KINDS, 8, "2 2 4 4 0 2 1 0 0 0 2 0");
@@ -331,7 +345,8 @@ public final class PromiseEdgesTest {
     }
 
     private static void bytesOfTokens() {
-        Kit.sentence("8: Byte i (from 0, as 0 .. 255) of what token k is: of a STRING its value, of a NAME, INT, FLOAT or word the text, without the _ between digits");
+        Kit.sentence("8: Byte i (from 0, as 0 .. 255) of what token k is: of a STRING its value, of a NAME, INT, FLOAT or word"
+                + " the text, without the _ between digits");
         SourceTokens x = Kit.scanned(ALL_KINDS);
         String[] values = {"ab", "if", "0x1F", "10.5", "", "d\n", "e", "", "", "", "ab", ""};
         for (int k = 0; k < values.length; k++) {
@@ -432,6 +447,12 @@ public final class PromiseEdgesTest {
                 }
             }
         }
+        for (int power = 0; power <= 520; power++) {
+            SourceTokens x = Kit.scanned("0x" + BigInteger.ONE.shiftLeft(power).toString(16));
+            for (int bits = 0; bits <= 512; bits++) {
+                Kit.due("fits(0, " + bits + ") of 2 to the power " + power, x.fits(0, bits), power < bits);
+            }
+        }
         SourceTokens x = Kit.scanned("0 1 2");
         Kit.due("fits(0, 0) of 0", x.fits(0, 0), true);
         Kit.due("fits(1, 0) of 1", x.fits(1, 0), false);
@@ -442,8 +463,8 @@ public final class PromiseEdgesTest {
 
     private static void fitsOfLongInts() {
         Kit.sentence("10: Whether INT k is less than 2 to the power bits, of INTS far beyond 512 bits");
-        for (String text : new String[] {"9".repeat(Kit.MAX_TEXT), "0x" + "f".repeat(Kit.MAX_TEXT - 2), "0x1" + "0".repeat(128), "0b1" + "0".repeat(512),
-            "0x1" + "0".repeat(4000), "01" + "0".repeat(20000)}) {
+        for (String text : new String[] {"9".repeat(Kit.MAX_TEXT), "0x" + "f".repeat(Kit.MAX_TEXT - 2), "0x1" + "0".repeat(128),
+            "0b1" + "0".repeat(512), "0x1" + "0".repeat(4000), "01" + "0".repeat(20000)}) {
             SourceTokens x = Kit.scanned(text);
             for (int bits : new int[] {0, 1, 64, 511, 512}) {
                 Kit.due("fits(0, " + bits + ") of " + Kit.shown(text), x.fits(0, bits), false);
@@ -478,13 +499,12 @@ public final class PromiseEdgesTest {
         Kit.due("fits(2, 512)", x.fits(2, 512), true);
     }
 
-    /** As many different NAMES as there may be tokens, but for the semicolon behind the last. */
-    private static String mostNames() {
+    private static String differentNames(int count) {
         // No word of the language begins with one of these.
         String first = "ABCDEFGHIJKLMNOPQRSTUVWXYZ_";
         String behind = first + "abcdefghijklmnopqrstuvwxyz0123456789";
         StringBuilder text = new StringBuilder();
-        for (int n = 0; n < Kit.MAX_TOKENS - 1; n++) {
+        for (int n = 0; n < count; n++) {
             text.append(first.charAt(n % first.length()));
             for (int rest = n / first.length(); rest > 0; rest = (rest - 1) / behind.length()) {
                 text.append(behind.charAt((rest - 1) % behind.length()));
@@ -505,7 +525,13 @@ public final class PromiseEdgesTest {
             x.scan();
             Kit.due("names() of " + texts[n], x.names(), want[n]);
         }
-        SourceTokens most = Kit.scanned(mostNames());
+        mostNames();
+        mostNamesTwice();
+    }
+
+    /** As many as there may be tokens, but for the semicolon behind the last. */
+    private static void mostNames() {
+        SourceTokens most = Kit.scanned(differentNames(Kit.MAX_TOKENS - 1));
         Kit.due("count() of the most NAMES", most.count(), Kit.MAX_TOKENS);
         Kit.due("names() of the most NAMES", most.names(), Kit.MAX_TOKENS - 1);
         for (int n = 0; n < Kit.MAX_TOKENS - 1; n++) {
@@ -517,6 +543,18 @@ public final class PromiseEdgesTest {
         most.scan();
         Kit.due("names() behind the most", most.names(), 2);
         Kit.dueText("numbers behind the most", Kit.facts(most, 6), "0 1 0 -1");
+    }
+
+    private static void mostNamesTwice() {
+        int half = Kit.MAX_TOKENS / 2 - 1;
+        SourceTokens x = Kit.scanned(differentNames(half) + differentNames(half));
+        Kit.due("names() of NAMES that come twice", x.names(), half);
+        for (int n = 0; n < half; n++) {
+            Kit.due("the number of NAME " + n, x.token(n, 6), n);
+            Kit.due("the number of NAME " + n + " again", x.token(half + n, 6), n);
+            Kit.due("firstOf(" + n + ")", x.firstOf(n), n);
+        }
+        Kit.due("firstOf behind the last", x.firstOf(half), SourceTokens.NONE);
     }
 
     private static void firstOf() {

@@ -55,8 +55,9 @@ public final class TermsEdgesTest {
         Kit.sentence("THE TEXT is at most 65536 bytes");
         fine(0, " ".repeat(FULL), "\n".repeat(FULL), "//" + "/".repeat(FULL - 2), "/*" + "*".repeat(FULL - 4) + "*/",
                 "/**/".repeat(FULL / 4));
-        fine(2, "a".repeat(FULL), "9".repeat(FULL), "0x" + "f".repeat(FULL - 2), "0".repeat(FULL), "1" + "_1".repeat(FULL / 2 - 1) + "1",
-                "." + "0".repeat(FULL - 1), "1e" + "9".repeat(FULL - 2), "\"" + "s".repeat(FULL - 2) + "\"",
+        fine(2, "a".repeat(FULL), "9".repeat(FULL), "0x" + "f".repeat(FULL - 2), "0".repeat(FULL),
+                "1" + "_1".repeat(FULL / 2 - 1) + "1", "." + "0".repeat(FULL - 1), "1e" + "9".repeat(FULL - 2),
+                "\"" + "s".repeat(FULL - 2) + "\"",
                 "`" + "\n".repeat(FULL - 2) + "`", "\"" + "\\\\".repeat(FULL / 2 - 1) + "\"", " ".repeat(FULL - 3) + "'a'");
         SourceTokens name = Kit.scanned("a".repeat(FULL));
         Kit.due("length of a NAME of 65536 bytes", name.token(0, 4), FULL);
@@ -145,7 +146,8 @@ public final class TermsEdgesTest {
                     room[0] + "\u00ed\u00bf\u00bf", room[0] + "\u00f4\u0090\u0080\u0080", room[0] + "\u00c2\u007f",
                     room[0] + "\u00df\u00c0", room[0] + "\u00ef" + room[1], room[0] + "\u00c2\n");
             wrong(in + 2, room[0] + "\u00e0\u00a0\u007f", room[0] + "\u00ef\u00bf\u00c0", room[0] + "\u00f4\u008f" + room[1]);
-            wrong(in + 3, room[0] + "\u00f0\u0090\u0080\u007f", room[0] + "\u00f4\u008f\u00bf\u00c0", room[0] + "\u00f3\u00bf\u00bf" + room[1]);
+            wrong(in + 3, room[0] + "\u00f0\u0090\u0080\u007f", room[0] + "\u00f4\u008f\u00bf\u00c0",
+                    room[0] + "\u00f3\u00bf\u00bf" + room[1]);
             Kit.dueScan(room[0] + "\u00c2", -1 - (in + 1));
             Kit.dueScan(room[0] + "\u00e1\u0080", -1 - (in + 2));
             Kit.dueScan(room[0] + "\u00f1\u0080\u0080", -1 - (in + 3));
@@ -177,8 +179,8 @@ public final class TermsEdgesTest {
 
     private static void words() {
         Kit.sentence("but the 25 WORDS .. are none");
-        String[] words = ("break case chan const continue default defer else fallthrough for func go goto if import interface map package"
-                + " range return select struct switch type var").split(" ");
+        String[] words = ("break case chan const continue default defer else fallthrough for func go goto if import"
+                + " interface map package range return select struct switch type var").split(" ");
         for (int n = 0; n < words.length; n++) {
             SourceTokens x = Kit.scanned(words[n]);
             Kit.due("kind of " + words[n], x.token(0, 0), 10 + n);
@@ -201,7 +203,8 @@ public final class TermsEdgesTest {
         wrong(2, "08 ", "09)", "08", "0_ ");
         wrong(3, "008", "019;", "078\n");
         Kit.sentence("0b or 0B and 0 or 1, 0o or 0O and 0 .. 7, 0x or 0X and 0 .. 9 a .. f A .. F, of these one at least");
-        for (String one : new String[] {"0b0", "0b1", "0B0", "0B1", "0o0", "0o7", "0O0", "0O7", "0x0", "0x9", "0xa", "0xf", "0xA", "0xF", "0X0"}) {
+        for (String one : new String[] {"0b0", "0b1", "0B0", "0B1", "0o0", "0o7", "0O0", "0O7", "0x0", "0x9", "0xa",
+            "0xf", "0xA", "0xF", "0X0"}) {
             Kit.dueFacts(one, 0, "2 85");
         }
         for (String start : new String[] {"0b", "0B", "0o", "0O", "0x", "0X"}) {
@@ -218,7 +221,8 @@ public final class TermsEdgesTest {
 
     private static void lowLines() {
         Kit.sentence("One _ may stand between two digits, and behind the first 0 or the letter if a digit follows");
-        for (String one : new String[] {"1_0", "1_2_3_4", "0_0", "0_7", "0_7_7", "0b_0", "0B1_0", "0o_7", "0O7_7", "0x_f", "0XF_F", "0x_0_0"}) {
+        for (String one : new String[] {"1_0", "1_2_3_4", "0_0", "0_7", "0_7_7", "0b_0", "0B1_0", "0o_7", "0O7_7", "0x_f",
+            "0XF_F", "0x_0_0"}) {
             Kit.dueFacts(one, 0, "2 85");
         }
         wrong(2, "1_", "1__0", "1_a", "1_ 0", "0_", "0__7", "0_b1", "0_x1", "0_ ", "1_.", "1_e");
@@ -229,8 +233,8 @@ public final class TermsEdgesTest {
 
     private static void floats() {
         Kit.sentence("FLOAT: digits 0 .. 9 (one _ between two), a . and digits or none behind; or . and digits; .. EXPONENT");
-        for (String one : new String[] {"0.", "9.", "0.0", "00.", "08.", "09.9", "0_8.", "1_0.0_1", ".0", ".9", ".0_0", "0e0", "08e0",
-            "1E9", "1e+0", "1E-9", "1.e0", "1.5e0", ".5e0", ".5E+5", "1e0_0", "1e00"}) {
+        for (String one : new String[] {"0.", "9.", "0.0", "00.", "08.", "09.9", "0_8.", "1_0.0_1", ".0", ".9", ".0_0", "0e0",
+            "08e0", "1E9", "1e+0", "1E-9", "1.e0", "1.5e0", ".5e0", ".5E+5", "1e0_0", "1e00"}) {
             Kit.dueFacts(one, 0, "3 85");
             Kit.dueFacts(one, 4, one.length() + " 0");
         }
@@ -255,7 +259,10 @@ public final class TermsEdgesTest {
             }
         }
         wrong(1, "0a", "0f", "1b1", "1x1", "1o1", "2a");
-        wrong(2, "1._0", "1.f", "1.x");
+        wrong(2, "1._0", "1.f", "1.x", ".5a", ".5A");
+        for (String number : new String[] {"1.5", "1e5", "1_0", "017"}) {
+            wrong(3, number + "a", number + "A", number + "f", number + "F");
+        }
         wrong(3, "0b12", "0b19", "0o78", "0o79", "0b1e", "0xfg", "0x1p", "0x1z");
     }
 
@@ -306,7 +313,8 @@ public final class TermsEdgesTest {
                 Kit.due("number() of the RUNE of " + value, Kit.scanned("'" + (char) value + "'").number(0), value);
             }
             if (isPlain && value != '"') {
-                Kit.dueText("the STRING of " + value, Kit.value(Kit.scanned("\"" + (char) value + "\""), 0), String.valueOf((char) value));
+                SourceTokens x = Kit.scanned("\"" + (char) value + "\"");
+                Kit.dueText("the STRING of " + value, Kit.value(x, 0), String.valueOf((char) value));
             }
         }
         wrong(1, "'\n", "''", "\"\n");
@@ -339,7 +347,8 @@ public final class TermsEdgesTest {
     private static void bytesByDigits() {
         Kit.sentence("or \\ and three digits 0 .. 7 (a byte, to 377), \\x and two of base 16 (a byte)");
         for (int value = 0; value < 256; value++) {
-            for (String escape : new String[] {"\\" + String.format("%03o", value), "\\x" + hex(2, value), "\\x" + hex(2, value).toUpperCase()}) {
+            for (String escape : new String[] {"\\" + String.format("%03o", value), "\\x" + hex(2, value),
+                "\\x" + hex(2, value).toUpperCase()}) {
                 Kit.due("number() of '" + escape + "'", Kit.scanned("'" + escape + "'").number(0), value);
                 SourceTokens x = Kit.scanned("\"" + escape + "\"");
                 Kit.due("how many bytes \"" + escape + "\" has", x.token(0, 8), 1);
@@ -355,8 +364,8 @@ public final class TermsEdgesTest {
 
     private static void codesByDigits() {
         Kit.sentence("\\ with u and four, \\U and eight (a code, no surrogate, to 10FFFF); of codes as UTF-8");
-        for (int code : new int[] {0, 1, 0x7F, 0x80, 0xFF, 0x7FF, 0x800, 0xFFF, 0x1000, 0xCFFF, 0xD000, 0xD7FF, 0xE000, 0xFFFF, 0x10000,
-            0x1D800, 0x1DFFF, 0xFFFFF, 0x100000, 0x10D800, 0x10FFFF}) {
+        for (int code : new int[] {0, 1, 0x7F, 0x80, 0xFF, 0x7FF, 0x800, 0xFFF, 0x1000, 0xCFFF, 0xD000, 0xD7FF, 0xE000, 0xFFFF,
+            0x10000, 0x1D800, 0x1DFFF, 0xFFFFF, 0x100000, 0x10D800, 0x10FFFF}) {
             checkCode("\\U" + hex(8, code), code);
             checkCode("\\U" + hex(8, code).toUpperCase(), code);
             if (code <= 0xFFFF) {
@@ -379,10 +388,11 @@ public final class TermsEdgesTest {
     }
 
     private static void causesOfSemicolons() {
-        Kit.sentence("A SEMICOLON is put in where a newline, a comment with a newline in it or with // , or the end of the text comes behind a token");
+        Kit.sentence("A SEMICOLON is put in where a newline, a comment with a newline in it or with // ,"
+                + " or the end of the text comes behind a token");
         String[] causes = {"\n", " \n", "//", "// a", "/*\n*/", "/* a\n\n*/", "", " ", "\t\r", "/**/", "/* // */"};
-        for (String last : new String[] {"a", "_", "0", "0.", ".0", "'a'", "\"\"", "``", "break", "continue", "fallthrough", "return", "++", "--",
-            ")", "]", "}"}) {
+        for (String last : new String[] {"a", "_", "0", "0.", ".0", "'a'", "\"\"", "``", "break", "continue", "fallthrough",
+            "return", "++", "--", ")", "]", "}"}) {
             for (String cause : causes) {
                 Kit.due("the kind behind " + last + Kit.shown(cause), Kit.scanned(last + cause).token(1, 0), 85);
                 Kit.due("whether it was put in", Kit.scanned(last + cause).token(1, 5), 1);
@@ -390,8 +400,9 @@ public final class TermsEdgesTest {
             fine(2, last + " ;", last + " /**/ ;", last + "/* // */;");
             fine(3, last + "\n;", last + "//\n;", last + "/*\n*/;");
         }
-        String others = "case chan const default defer else for func go goto if import interface map package range select struct switch type var"
-                + " + - * / % & | ^ << >> &^ += -= *= /= %= &= |= ^= <<= >>= &^= && || <- == < > = ! ~ != <= >= := ... ( [ { , ; . :";
+        String others = "case chan const default defer else for func go goto if import interface map package range select struct"
+                + " switch type var + - * / % & | ^ << >> &^ += -= *= /= %= &= |= ^= <<= >>= &^= && || <- == < > ="
+                + " ! ~ != <= >= := ... ( [ { , ; . :";
         for (String last : others.split(" ")) {
             for (String cause : causes) {
                 boolean isCommentToo = last.equals("/") && cause.startsWith("/");
@@ -435,8 +446,8 @@ public final class TermsEdgesTest {
         wrong(3, "\"a\"?");
         wrong(4, "a + #");
         Kit.sentence("(or the end, when the text must not end there)");
-        for (String open : new String[] {"'", "'a", "\"", "\"a", "`", "`a\n", "/*", "/* *", "0x", "0b", "0o", "1_", "0_", "1e", "1e+", "08", "09_",
-            "'\\", "'\\x", "'\\u12", "\"\u00e2", "//\u00e2", "a /*\n"}) {
+        for (String open : new String[] {"'", "'a", "\"", "\"a", "`", "`a\n", "/*", "/* *", "0x", "0b", "0o", "1_", "0_", "1e", "1e+",
+            "08", "09_", "'\\", "'\\x", "'\\u12", "\"\u00e2", "//\u00e2", "a /*\n"}) {
             Kit.dueScan(open, -1 - open.length());
         }
         Kit.sentence("be the text as long as it may");
