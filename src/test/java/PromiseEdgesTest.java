@@ -17,6 +17,7 @@ public final class PromiseEdgesTest {
         size();
         scanLeavesNoText();
         scanTellsTheFineBytes();
+        scansBeginAnew();
         manyScans();
         count();
         factsOfTokens();
@@ -258,6 +259,21 @@ public final class PromiseEdgesTest {
         Kit.due("scan() behind errors", x.scan(), 3);
         Kit.dueText("numbers of NAMES behind errors", Kit.facts(x, 6), "0 1 -1");
         Kit.dueText("bytes behind errors", Kit.value(x, 0) + Kit.value(x, 1), "cb");
+    }
+
+    /** A token of an earlier scan has the same k as one of the later, and must leave nothing behind. */
+    private static void scansBeginAnew() {
+        Kit.sentence("6, 7: from the latest scan");
+        String[] texts = {"", ALL_KINDS, "a\nb\nc\nd", "0x1 0b1 01 'z' 1", "'a' 'b' 'c' 'd'", "\"abc\" \"\" `d`", "+ - if (", "c b a c",
+            "`\n\n` /*\n*/ e", "1.5 .5 1e5", "a #", "'"};
+        for (String earlier : texts) {
+            for (String later : texts) {
+                SourceTokens x = Kit.scanned(earlier);
+                Kit.feed(x, later);
+                x.scan();
+                Kit.dueText("all of " + Kit.shown(later) + " behind " + Kit.shown(earlier), told(x), told(Kit.scanned(later)));
+            }
+        }
     }
 
     private static void manyScans() {
