@@ -212,15 +212,16 @@ public final class SourceTokens {
         }
 
         int here() {
-            return at >= 0 && at < size ? bytes[at] & 255 : NONE;
+            return at >= 0 && at < size && at < bytes.length ? bytes[at] & 255 : NONE;
         }
 
         int next() {
-            return at >= 0 && at < size - 1 ? bytes[at + 1] & 255 : NONE;
+            int place = at + 1;
+            return place >= 0 && place < size && place < bytes.length ? bytes[place] & 255 : NONE;
         }
 
         void step() {
-            if (at >= 0 && at < size && bytes[at] == '\n') {
+            if (here() == '\n') {
                 line++;
                 lineStart = at + 1;
             }
@@ -312,7 +313,11 @@ public final class SourceTokens {
         }
 
         int fact(int k, int what) {
-            return has(k) && what >= 0 && what < FACTS ? facts[k * FACTS + what] : NONE;
+            if (!has(k) || what < 0 || what >= FACTS) {
+                return NONE;
+            }
+            int place = k * FACTS + what;
+            return place >= 0 && place < facts.length ? facts[place] : NONE;
         }
 
         int kindOf(int k) {
@@ -361,7 +366,7 @@ public final class SourceTokens {
         }
 
         int byteAt(int place) {
-            return place >= 0 && place < used ? row[place] & 255 : NONE;
+            return place >= 0 && place < used && place < row.length ? row[place] & 255 : NONE;
         }
 
         boolean areEqual(int one, int other, int length) {
@@ -405,7 +410,7 @@ public final class SourceTokens {
             int from = tokens.fact(k, FIRST_BYTE);
             int length = tokens.fact(k, BYTE_COUNT);
             int n = heads[hash & CHAINS - 1];
-            for (int steps = 0; steps < known && n >= 0 && n < known; steps++) {
+            for (int steps = 0; steps < known && n >= 0 && n < hashes.length && n < follower.length; steps++) {
                 int first = firstToken(n);
                 if (hashes[n] == hash && tokens.fact(first, BYTE_COUNT) == length
                         && tokens.bytes.areEqual(tokens.fact(first, FIRST_BYTE), from, length)) {
